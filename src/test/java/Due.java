@@ -78,8 +78,14 @@ final class Due {
                 s.append(x.cloth(k, what)).append(' ');
             }
         }
-        s.append(x.fault()).append(' ').append(x.wasCut()).append(' ').append(x.judge());
+        s.append(x.wasCut()).append(' ').append(x.judge());
         return s.toString();
+    }
+
+    /** A call that was refused: it answered as due, and all is as it was. */
+    static void refused(BaredCurtain x, String before, String call, int got, int want) {
+        is(call, got, want);
+        holds(call + " changed something", all(x).equals(before));
     }
 
     /** Ends the test: the exit code is 1 if an answer was wrong. */
