@@ -118,7 +118,9 @@ public final class DoneTest {
         Due.is("go(0, 1) where he is", x.go(0, 1), 1);
         Due.is("actor(0, 0)", x.actor(0, 0), 1);
         Due.is("actor(1, 0)", x.actor(1, 0), 1);
-        Due.is("told(12)", x.told(12), 3);
+        Due.is("go(1, 0)", x.go(1, 0), 1);
+        Due.is("actor(1, 0)", x.actor(1, 0), 0);
+        Due.is("told(12)", x.told(12), 4);
         String before = Due.all(x);
         Due.refused(x, before, "go(2, 0)", x.go(2, 0), Due.UNKNOWN);
         Due.refused(x, before, "go(-1, 0)", x.go(-1, 0), Due.UNKNOWN);

@@ -292,6 +292,16 @@ public final class HouseTest {
         x = Due.house("k2 1 0;c0 99 0 1;h0;a0 1 0 0;");
         Due.is("told(9): -99 / 100", x.told(9), 100);
         Due.is("told(6)", x.told(6), 1);
+        x = Due.house("k2 1 0;c0 99 0 1;h1;");
+        Due.is("told(9): 99 / 100", x.told(9), 100);
+        x = Due.house("k2 2 0;c0 50 0 1;h1;h3;");
+        Due.is("told(9): 100 / 100, a hole weighs nothing", x.told(9), 101);
+        x = Due.house("k2 2 0;c0 50 0 1;h0;h2;");
+        Due.is("told(9): -100 / 100", x.told(9), 99);
+        x = Due.house("k5 4 0;c0 99 0 1;h3;h4;h8;h9;h13;h14;h18;h19;");
+        Due.is("told(9): 792 / 100", x.told(9), 107);
+        Due.is("cell(19, 3)", x.cell(19, 3), 110);
+        Due.is("cell(0, 3)", x.cell(0, 3), 93);
         x = Due.house("k3 4 0;c0 99 0 1;h1;h2;h5;h8;h11;a1 1 0 0;a2 4 0 0;a2 3 0 0;");
         Due.is("told(9): the middle counts on neither side", x.told(9), 103);
         Due.is("cell(1, 3): the middle hangs as it is", x.cell(1, 3), 100);

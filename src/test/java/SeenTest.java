@@ -42,6 +42,11 @@ public final class SeenTest {
         Due.is("wasCut()", x.wasCut(), 8);
         x.see(0, true);
         Due.is("wasCut(), nothing fits", x.wasCut(), 0);
+        x = Due.house("k5 4 0;a4 4 0 0;a4 3 0 0;");
+        Due.is("wasCut(), twenty cells", x.wasCut(), 1048575);
+        x.see(0, true);
+        x.see(1, false);
+        Due.is("wasCut(), the last cell", x.wasCut(), 1 << 19);
         Due.is("wasCut() without a curtain", new BaredCurtain().wasCut(), 0);
     }
 
