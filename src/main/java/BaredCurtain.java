@@ -680,9 +680,13 @@ public final class BaredCurtain {
         /** LEANS, if just these cells were holes: what was cut is asked of other holes than there are. */
         int leansWith(House house, int holes) {
             int balance = 0;
-            for (int c = 0; c < house.cells(); c++) {
-                int weight = hasBit(holes, c) ? 0 : house.weightOf(clothAt(c));
-                balance -= house.sideOf(house.columnOfCell(c)) * weight;
+            for (int x = 0; x < house.width; x++) {
+                int weight = 0;
+                for (int g = 0; g < house.rows; g++) {
+                    int c = house.cellAt(x, g);
+                    weight += hasBit(holes, c) ? 0 : house.weightOf(clothAt(c));
+                }
+                balance -= house.sideOf(x) * weight;
             }
             return balance / 100;
         }
@@ -1065,6 +1069,7 @@ public final class BaredCurtain {
         int fewest = NONE;
         final int[] best = new int[MOST_ACTORS];
         private final int[] columns = new int[MOST_ACTORS];
+        private final int[] holesOf = new int[MOST_COLUMNS];
         private final Scene trial = new Scene();
 
         void search(House house, Scene now, int told, int nights) {
@@ -1072,6 +1077,7 @@ public final class BaredCurtain {
             for (int a = 0; a < MOST_ACTORS; a++) {
                 put(columns, a, 0);
             }
+            countHoles(house, now);
             int ways = house.placings();
             for (int way = 0; way < ways && fewest != 0; way++) {
                 int bared = hasEnough(house, now) ? baredUntilWhole(house, now, told, nights) : NONE;
@@ -1083,13 +1089,20 @@ public final class BaredCurtain {
             }
         }
 
+        private void countHoles(House house, Scene now) {
+            for (int x = 0; x < house.width; x++) {
+                int count = 0;
+                for (int g = 0; g < house.rows; g++) {
+                    count += hasBit(now.holes(), house.cellAt(x, g)) ? 1 : 0;
+                }
+                put(holesOf, x, count);
+            }
+        }
+
         /** Only who stands behind a column mends it, by one piece a hole: most ways fail here already. */
         private boolean hasEnough(House house, Scene now) {
             for (int x = 0; x < house.width; x++) {
-                int lacking = 0;
-                for (int g = 0; g < house.rows; g++) {
-                    lacking += hasBit(now.holes(), house.cellAt(x, g)) ? 1 : 0;
-                }
+                int lacking = at(holesOf, x);
                 for (int a = 0; a < house.actors && lacking > 0; a++) {
                     lacking -= at(columns, a) == x ? now.piecesOf(a) : 0;
                 }

@@ -2,7 +2,7 @@ import java.util.Random;
 
 /** Random runs of calls: every answer of the class is compared with the model's. */
 public final class ModelTest {
-    private static final int RUNS = 1500;
+    private static final int RUNS = 4000;
     private static final int CALLS = 512;
     private static final int[] WILD = {-1, -2, 0, 1, 5, 20, 21, 40, 41, 99, 100, 101, 255, 256, 9000,
         Integer.MAX_VALUE, Integer.MIN_VALUE, Due.UNKNOWN};
