@@ -89,6 +89,7 @@ public final class HouseTest {
         Due.is("told(2)", x.told(2), 0);
         Due.is("told(5)", x.told(5), 0);
         Due.is("cell(1, 0)", x.cell(1, 0), 4);
+        Due.is("cell(0, 2)", x.cell(0, 2), 0);
         Due.is("cloth(0, 0), untold again", x.cloth(0, 0), 10);
         Due.is("actor(0, 0)", x.actor(0, 0), Due.UNKNOWN);
     }
