@@ -49,6 +49,12 @@ final class HouseBounds {
         for (int what = 0; what < told.length; what++) {
             Due.is("told(" + what + ")", x.told(what), told[what]);
         }
+        int[] untold = {10, 0, 5};
+        for (int k = 0; k < 5; k++) {
+            for (int what = 0; what < 3; what++) {
+                Due.is("cloth(" + k + ", " + what + "), untold", x.cloth(k, what), untold[what]);
+            }
+        }
         Due.is("fault()", x.fault(), Due.NONE);
         Due.is("cell(0, 0)", x.cell(0, 0), Due.UNKNOWN);
         Due.is("actor(0, 0)", x.actor(0, 0), Due.UNKNOWN);

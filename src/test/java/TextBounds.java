@@ -22,6 +22,7 @@ final class TextBounds {
         neighbours();
         firstLetter();
         theEnd();
+        theEndBehindALongerText();
         theLeast();
         cannotStand();
         wrongNumber();
@@ -260,6 +261,20 @@ final class TextBounds {
         faulty(ONE + "a0 1 0 0  ", 1, 17);
         faulty("k6", 2, 1);
         faulty("k1 1 1000", 2, 5);
+    }
+
+    /** Every text cut short, behind the whole of it: no letter of the one before may be read on. */
+    private static void theEndBehindALongerText() {
+        Sentences.of(4, "(the end at the text's length)");
+        String whole = "k2 1 0;c0 1 2 3;h1;a0 1 0 9;";
+        for (int n = 1; n < whole.length(); n++) {
+            BaredCurtain x = fine(whole, 1);
+            Due.feed(x, whole.substring(0, n));
+            int got = x.house();
+            boolean ends = whole.charAt(n - 1) == ';';
+            Due.is("house() of its first " + n, got, ends ? 0 : -11);
+            Due.is("fault() of its first " + n, x.fault(), ends ? Due.NONE : n);
+        }
     }
 
     private static void theLeast() {

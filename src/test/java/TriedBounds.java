@@ -15,6 +15,7 @@ final class TriedBounds {
         standsFirst();
         standsAnswers();
         standsRefused();
+        standsInANarrowerHouse();
         hiddenRows();
         cannotWithoutAPiece();
         sewingByTailors();
@@ -151,6 +152,18 @@ final class TriedBounds {
         Due.is("stands(-1, 1, -1), NONE is no told one", x.stands(-1, 1, -1), Due.UNKNOWN);
         Due.is("stands(1, 21, 1)", x.stands(1, 21, 1), Due.OUTSIDE);
         Due.is("stands(0, 1, -1), no actors", Due.house("k1 1 0;").stands(0, 1, -1), Due.UNKNOWN);
+    }
+
+    /** The house before had more columns, all with holes, and more actors: nothing of it counts. */
+    private static void standsInANarrowerHouse() {
+        Sentences.of(17, "STANDS: COLUMNS for all ACTORS by which");
+        BaredCurtain x = Due.house("k5 4 0;h1;h2;h3;h4;h9;h19;a0 4 0 9;a1 4 0 9;a2 4 0 9;a3 4 0 9;a4 4 0 9;");
+        standsAt(x, 0, 20, 0, 0, 1, 2, 3, 4);
+        for (int w = 4; w >= 1; w--) {
+            Due.feed(x, "k" + w + " 1 0;h" + (w - 1) + ";a0 1 0 1;");
+            Due.is("house()", x.house(), 1);
+            standsAt(x, 0, 1, 0, w - 1);
+        }
     }
 
     private static void hidden(String text, int due) {
