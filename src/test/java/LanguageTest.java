@@ -22,21 +22,27 @@ public final class LanguageTest {
         + "hidden() cannot() sewing(int) least(int,int) moths() thread(int,int) see(int,boolean) wasCut() watch() "
         + "write(int,int) tear() judge() seed(int) keep(int) goBack(int)";
     private static final Pattern HEAD = Pattern.compile("^( {8}| {4})(?! |return|else|new)[\\w\\[\\] ]*?\\b(\\w+)\\(([^()]*)\\) \\{$");
+    private static final String CONSTANTS = "FULL=-1000000004 NONE=-1 NOT=-1000000003 OUTSIDE=-1000000002 UNKNOWN=-1000000001";
+    private static final Set<String> LIBRARY = Set.of("Integer.bitCount", "Integer.compare", "Math.max", "Math.min", "System.arraycopy");
+    private static final Pattern LOOP = Pattern.compile("for \\(int (\\w+) = [^;]+; \\1 (?:<=?|>=?) [^;]+; (?:\\1\\+\\+|\\1--|\\1 = \\(\\1 - 1\\) & \\w+)\\) \\{");
     private static final int MOST_LINES = 60;
     private static final int MOST_DEEP = 8;
     private static final int MOST_CLASSES = 12;
     private static final int MOST_FIELDS = 20;
 
-    public static void main(String[] args) throws IOException {
+    public static void main(String[] args) throws IOException, IllegalAccessException {
         String source = Files.readString(Path.of("src/main/java/BaredCurtain.java"));
         face();
         nestedClasses();
         forbiddenWords(source);
+        library(bare(source));
+        loops(bare(source));
+        divisors(bare(source));
         methods(source);
         Due.end("LanguageTest");
     }
 
-    private static void face() {
+    private static void face() throws IllegalAccessException {
         Due.in("rule 1");
         Set<String> due = new TreeSet<>(List.of(FACE.split(" ")));
         Set<String> got = new TreeSet<>();
@@ -52,10 +58,12 @@ public final class LanguageTest {
         Set<String> constants = new TreeSet<>();
         for (Field f : BaredCurtain.class.getDeclaredFields()) {
             if (!Modifier.isPrivate(f.getModifiers())) {
-                constants.add(f.toString().replace("BaredCurtain.", ""));
+                Due.holds(f + " is no constant of the face", f.getType() == int.class
+                    && f.getModifiers() == (Modifier.PUBLIC | Modifier.STATIC | Modifier.FINAL));
+                constants.add(f.getName() + "=" + f.getInt(null));
             }
         }
-        Due.holds("the constants are " + constants, constants.size() == 5);
+        Due.holds("the constants are " + constants, String.join(" ", constants).equals(CONSTANTS));
         Constructor<?>[] made = BaredCurtain.class.getDeclaredConstructors();
         Due.holds("one public constructor", made.length == 1 && Modifier.isPublic(made[0].getModifiers())
             && made[0].getParameterCount() == 0);
@@ -128,8 +136,61 @@ public final class LanguageTest {
         }
     }
 
+    /** All that is called by a class's name, but for the class's own, is what rule 4 lists; a cast is to int alone. */
+    private static void library(String bare) {
+        Due.in("rules 3, 4 and 6");
+        Matcher call = Pattern.compile("\\b([A-Z]\\w*\\.\\w+)\\(").matcher(bare);
+        while (call.find()) {
+            Due.holds("the call of " + call.group(1), LIBRARY.contains(call.group(1)));
+        }
+        Matcher cast = Pattern.compile("[=(,] ?\\((\\w+)\\) ?[\\w(]|return \\((\\w+)\\) ?[\\w(]").matcher(bare);
+        while (cast.find()) {
+            String type = cast.group(1) == null ? cast.group(2) : cast.group(1);
+            Due.holds("the cast to " + type, type.equals("int"));
+        }
+        Due.holds("an array of arrays", !bare.replaceAll("\\s", "").contains("[]["));
+        Due.holds("a text", !bare.contains("\"") && !Pattern.compile("\\bString").matcher(bare).find());
+    }
+
+    private static void loops(String bare) {
+        Due.in("rule 9");
+        Due.holds("a loop by while", !Pattern.compile("\\b(while|do)\\b").matcher(bare).find());
+        Matcher loop = Pattern.compile("\\bfor \\([^\n]*").matcher(bare);
+        int found = 0;
+        while (loop.find()) {
+            found++;
+            Due.holds("its end is not seen: " + loop.group(), LOOP.matcher(loop.group()).matches());
+        }
+        Due.holds("loops were found: " + found, found > 40);
+    }
+
+    /** What is divided by is a number written out, or was looked at on the same line. */
+    private static void divisors(String bare) {
+        Due.in("rule 7");
+        for (String line : bare.split("\n")) {
+            Matcher by = Pattern.compile("[/%]=? *([A-Za-z_(]\\w*)").matcher(line);
+            while (by.find()) {
+                Due.holds(by.group(1) + " divides unseen: " + line.strip(), line.contains(by.group(1) + " > 0 ?"));
+            }
+        }
+    }
+
+    /** A name that stands in an index was held against both ends in the same method, or counts a loop from 0. */
+    private static void indices(String name, String body) {
+        Matcher index = Pattern.compile("\\b\\w+\\[([^\\]]*)\\]").matcher(body);
+        while (index.find()) {
+            Matcher used = Pattern.compile("\\b[a-z]\\w*\\b").matcher(index.group(1));
+            while (used.find()) {
+                String v = used.group();
+                boolean seen = body.contains(v + " >= 0 && " + v + " < ") || body.contains(v + " < 0 || " + v + " >= ")
+                    || body.contains("for (int " + v + " = 0; " + v + " < ");
+                Due.holds(name + " uses " + index.group() + " unseen", seen);
+            }
+        }
+    }
+
     private static void methods(String source) {
-        Due.in("rules 8, 11 and 12");
+        Due.in("rules 7, 8, 11 and 12");
         Map<String, Set<String>> calls = new HashMap<>();
         String[] lines = bare(source).split("\n");
         for (int i = 0; i < lines.length; i++) {
@@ -146,6 +207,7 @@ public final class LanguageTest {
             String name = head.group(2);
             Due.holds(name + " is long", end - i + 1 <= MOST_LINES);
             Due.holds(name + " makes an object", !Pattern.compile("\\bnew\\b|\\.clone\\(|copyOf").matcher(body).find());
+            indices(name, body.toString());
             Set<String> called = calls.computeIfAbsent(name, k -> new HashSet<>());
             Matcher call = Pattern.compile("\\b(\\w+)\\(").matcher(body);
             while (call.find()) {
